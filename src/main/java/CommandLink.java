@@ -168,7 +168,7 @@ public final class CommandLink {
         if (!now.hasTimeFor(n)) {
             return NONE;
         }
-        now.passTicks(n);
+        now.passTicks(n, false);
         return now.common.tick;
     }
 
@@ -379,7 +379,7 @@ public final class CommandLink {
             if (thought.sender.machine == OFF) {
                 return NONE;
             }
-            thought.passTickTakingAll();
+            thought.passTicks(1, true);
         }
         return NONE;
     }
@@ -400,9 +400,7 @@ public final class CommandLink {
         if (!thought.directed(w)) {
             return false;
         }
-        for (int i = 0; i < WAYS_TICKS; i++) {
-            thought.passTickTakingAll();
-        }
+        thought.passTicks(WAYS_TICKS, true);
         return thought.isInStep();
     }
 
@@ -495,7 +493,8 @@ public final class CommandLink {
             return isWithin(n, 1, TICKS_AT_ONCE) && common.tick + n <= TICK_MOST;
         }
 
-        void passTicks(int n) {
+        /** taking: all that lies at the receiver is TAKEN behind each TICK. */
+        void passTicks(int n, boolean taking) {
             for (int t = 0; t < n; t++) {
                 common.tick++;
                 for (int i = 0; i < Way.MOST && up.isDue(); i++) {
@@ -511,13 +510,9 @@ public final class CommandLink {
                 }
                 sender.runTimer();
                 sender.haveTurn(up);
-            }
-        }
-
-        void passTickTakingAll() {
-            passTicks(1);
-            for (int i = 0; i < Row.MOST && receiver.lying.count > 0; i++) {
-                receiver.handOver();
+                for (int i = 0; taking && i < Row.MOST && receiver.lying.count > 0; i++) {
+                    receiver.handOver();
+                }
             }
         }
 
@@ -563,7 +558,7 @@ public final class CommandLink {
             if (!hasTimeFor(n)) {
                 return false;
             }
-            passTicks(n);
+            passTicks(n, false);
             return true;
         }
 
@@ -733,7 +728,7 @@ public final class CommandLink {
         }
 
         boolean hasByte(int i, int k) {
-            return has(i) && k >= 0 && k < width;
+            return i >= 0 && i < count && i < MOST && k >= 0 && k < width;
         }
 
         boolean isDue() {
@@ -818,8 +813,8 @@ public final class CommandLink {
             put(word, line);
             if (drawn < loss + common.told[SPOILT]) {
                 hurt++;
-                int k = common.draw(width);
-                putByte(count - 1, k, (byteOf(count - 1, k) + 1) & 255);
+                int at = (count - 1) * FRAME_BYTES + common.draw(width);
+                bytes[at] = (bytes[at] + 1) & 255;
             }
         }
 
@@ -1493,8 +1488,9 @@ public final class CommandLink {
         /** All of the row are gone by an ALARM or a START. */
         void lose(Row row) {
             for (int i = 0; i < row.count; i++) {
-                if (has(row.lines[i])) {
-                    cells[row.lines[i] * CELLS + STANDS] = GONE_BY_ALARM;
+                int line = row.lines[i];
+                if (line >= 0 && line < MOST) {
+                    cells[line * CELLS + STANDS] = GONE_BY_ALARM;
                 }
             }
             row.count = 0;
@@ -1503,8 +1499,9 @@ public final class CommandLink {
         /** The first n of SENT are gone by a REPORT. */
         void letGo(Row sent, int n) {
             for (int i = 0; i < n && i < sent.count; i++) {
-                if (has(sent.lines[i])) {
-                    cells[sent.lines[i] * CELLS + STANDS] = GONE_BY_REPORT;
+                int line = sent.lines[i];
+                if (line >= 0 && line < MOST) {
+                    cells[line * CELLS + STANDS] = GONE_BY_REPORT;
                 }
             }
             sent.removeFirst(Math.min(n, sent.count));
