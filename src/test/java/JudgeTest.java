@@ -17,6 +17,9 @@ public final class JudgeTest {
         inResends();
         inWaiting();
         numberThatCantBe();
+        marksMoveUp();
+        triesBeginAnew();
+        highestFlags();
         locked();
         checking();
         directing();
@@ -232,6 +235,58 @@ public final class JudgeTest {
         CommandLink z = Ask.withReport(3, LOCKED, 255);
         z.tick(1);
         DUE.is("21 LOCKED is asked first", 1, z.alarm(0));
+    }
+
+    /** One of three has gone again when the first two are known to be taken in. */
+    private static void marksMoveUp() {
+        CommandLink x = resends();
+        x.past(1);
+        x.past(2);
+        x.past(3);
+        x.set(10, 1);
+        x.tick(1);
+        x.set(10, 20);
+        Ask.forgeReport(x, 0, 0, 2);
+        x.tick(1);
+        DUE.is("24 the third is MARKED still", 1, x.sender(5));
+        DUE.is("24 MACHINE 1", 1, x.sender(0));
+        CommandLink y = resends();
+        y.tick(1);
+        y.past(1);
+        y.past(2);
+        y.set(10, 1);
+        y.tick(1);
+        y.set(10, 20);
+        DUE.is("24 the third is MARKED alone", 1, y.sender(5));
+        Ask.forgeReport(y, 0, 0, 1);
+        y.tick(1);
+        DUE.is("24 and stays so", 1, y.sender(5));
+        y.tick(1);
+        DUE.is("24 it goes", 2, y.way(true, y.way(true, -1, 0) - 1, 1));
+    }
+
+    private static void triesBeginAnew() {
+        CommandLink x = resends();
+        DUE.is("18 TRIES 2", 2, x.sender(7));
+        follow(x, 0, 1);
+        DUE.is("24 SOME: TRIES 1", 1, x.sender(7));
+        CommandLink y = follow(resends(), 0, 3);
+        DUE.is("24 ALL: TRIES as they were", 2, y.sender(7));
+        y.send(7);
+        y.tick(1);
+        DUE.is("18 TRIES 1 at a new FRAME, if SENT was empty", 1, y.sender(7));
+        CommandLink z = resends();
+        z.send(7);
+        z.tick(3);
+        DUE.is("18 a new FRAME behind others", 4, z.sender(4));
+        DUE.is("18 TRIES stay", 2, z.sender(7));
+    }
+
+    private static void highestFlags() {
+        CommandLink x = Ask.withReport(1, 31, 0);
+        x.tick(1);
+        DUE.is("22 FLAGS 31", "LWR3 0", Ask.text(x, 0));
+        DUE.is("21 it is LOCKED", 1, x.alarm(0));
     }
 
     private static void locked() {

@@ -8,6 +8,8 @@ public final class LedgerTest {
         staysThatCommand();
         otherKindsHaveNoLine();
         overtaken();
+        takenInTogether();
+        goneByStart();
         takenInTwice();
         vanished();
         full();
@@ -114,6 +116,38 @@ public final class LedgerTest {
         x.tick(2);
         DUE.is("27 then the first", 9, x.ledger(0, 5));
         DUE.is("27 taken in behind a later line", 1, x.delays(5));
+    }
+
+    private static void takenInTogether() {
+        CommandLink x = new CommandLink();
+        x.start(0, 0);
+        x.send(1);
+        x.send(2);
+        x.tick(1);
+        x.set(6, 1);
+        x.tick(3);
+        DUE.is("26 the first at 4", 4, x.ledger(0, 5));
+        DUE.is("26 the second waited behind it", 4, x.ledger(1, 5));
+        DUE.is("27 none is behind the other", 0, x.delays(5));
+    }
+
+    private static void goneByStart() {
+        CommandLink x = new CommandLink();
+        x.set(2, 1);
+        x.set(3, 1);
+        x.set(4, 3);
+        x.set(5, 1);
+        x.set(6, 40);
+        x.start(0, 0);
+        x.send(1);
+        x.send(2);
+        x.tick(4);
+        DUE.is("26 HELD: SENT stays", 1, x.ledger(0, 6));
+        DUE.is("26 HELD: LINE stays", 0, x.ledger(1, 6));
+        x.start(1, 0);
+        DUE.is("26 SENT, gone by a START", 3, x.ledger(0, 6));
+        DUE.is("26 LINE, gone by a START", 3, x.ledger(1, 6));
+        DUE.is("30 both are nowhere", 2, x.truth(3));
     }
 
     private static void takenInTwice() {

@@ -15,6 +15,7 @@ public final class ReceiverTest {
         goodEdges();
         countGoesRound();
         keepsAHundred();
+        reports();
         zones();
         asking();
         DUE.end();
@@ -202,6 +203,32 @@ public final class ReceiverTest {
         DUE.is("19 the first of PAST", 256, x.receiver(200));
         DUE.is("19 the hundredth of PAST", 355, x.receiver(299));
         DUE.is("19 no more", -2, x.receiver(300));
+    }
+
+    /** The REPORT that goes at the next TICK. */
+    private static String nextReport(CommandLink x) {
+        x.set(10, 1);
+        x.tick(1);
+        x.set(10, 20);
+        return Ask.bytes(x, false, x.way(false, -1, 0) - 1);
+    }
+
+    private static void reports() {
+        CommandLink x = quick();
+        x.set(1, 0);
+        x.set(7, 40);
+        DUE.is("20 nothing to report", "0 0 85", nextReport(x));
+        comes(x, 0, 1, 0, 5);
+        DUE.is("20 RESEND", "4 0 89", nextReport(x));
+        comes(x, 0, 0, 0, 5);
+        DUE.is("20 WAITS and RESEND", "6 0 91", nextReport(x));
+        comes(x, 2, 0, 1, 255);
+        DUE.is("20 COUNT 1", "8 255 92", nextReport(x));
+        comes(x, 0, 100, 0, 5);
+        DUE.is("20 LOCKED", "9 255 93", nextReport(x));
+        comes(x, 1, 0, 0, 5);
+        comes(x, 1, 0, 0, 5);
+        DUE.is("20 COUNT 3", "25 255 109", nextReport(x));
     }
 
     private static void zones() {

@@ -28,6 +28,10 @@ public final class SettingsTest {
         for (int what = 0; what < 8; what++) {
             DUE.is("1 receiver " + what, 0, x.receiver(what));
         }
+        for (int what = 12; what < 20; what++) {
+            DUE.is("1 look " + what, 0, x.look(what));
+        }
+        DUE.is("1 TICK", 0, x.look(0));
         DUE.is("1 report", "", Ask.text(x, 0));
         DUE.is("1 sender", "OFF 0/3 #0", Ask.text(x, 1));
         DUE.is("1 receiver", "OPEN 0", Ask.text(x, 2));

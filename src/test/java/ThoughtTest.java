@@ -14,7 +14,11 @@ public final class ThoughtTest {
         waysWhenOutOfStep();
         waysWhenHeld();
         waysLookAtTheHundredthTick();
+        waysAreWithoutLoss();
+        waysTakeAll();
         image();
+        imageOfTheReceiver();
+        imageOfTheSender();
         imageLeavesTheTape();
         DUE.end();
     }
@@ -210,6 +214,133 @@ public final class ThoughtTest {
         x.tick(5);
         x.image(false);
         DUE.is("33 taken anew", 7, x.look(0));
+    }
+
+    private static void waysAreWithoutLoss() {
+        CommandLink x = new CommandLink();
+        x.renumber(9);
+        x.set(8, 90);
+        DUE.is("32 without LOSS", 8, x.ways());
+        x.set(8, 0);
+        x.set(9, 90);
+        DUE.is("32 without SPOILT", 8, x.ways());
+        DUE.is("32 SPOILT stands", 90, x.look(10));
+    }
+
+    /** GO ON resends what a full receiver would not take in, were it not TAKEN from. */
+    private static void waysTakeAll() {
+        CommandLink x = new CommandLink();
+        x.set(1, 1);
+        x.set(3, 1);
+        x.set(5, 1);
+        x.set(4, 99);
+        x.set(10, 20);
+        x.set(7, 40);
+        x.start(0, 0);
+        x.send(1);
+        x.tick(60);
+        DUE.is("32 one lies there", 1, x.receiver(5));
+        DUE.is("32 none is SENT", 0, x.sender(4));
+        x.set(4, 1);
+        x.send(2);
+        x.tick(2);
+        DUE.is("32 HELD", 1, x.sender(9));
+        x.drop(true, 0);
+        x.set(4, 99);
+        for (int n = 1; n <= 3; n++) {
+            x.drop(false, 0);
+        }
+        DUE.is("32 GO ON, and the set", 24, x.ways());
+    }
+
+    /** A number far outside comes to the receiver; UP is 1. */
+    private static void lock(CommandLink x) {
+        x.past(1);
+        x.tick(1);
+        int last = x.way(true, -1, 0) - 1;
+        Ask.forge(x, true, last, 0, 0);
+        Ask.forge(x, true, last, 1, (x.receiver(0) + 100) & 255);
+        x.tick(1);
+    }
+
+    private static void imageOfTheReceiver() {
+        CommandLink x = new CommandLink();
+        x.set(1, 1);
+        x.set(6, 1);
+        x.start(0, 0);
+        x.past(4000);
+        x.send(5000);
+        x.send(6000);
+        x.tick(4);
+        x.image(true);
+        DUE.is("33 it WAITS", "WAIT 1R", Ask.text(x, 2));
+        String before = all(x);
+        x.take();
+        x.past(4001);
+        x.tick(30);
+        lock(x);
+        DUE.is("33 LOCKED meanwhile", "LOCKED 2", Ask.text(x, 2));
+        x.image(false);
+        DUE.is("33 the receiver is as it was", before, all(x));
+        lock(x);
+        x.tick(9);
+        DUE.is("33 LOCKED", "LOCKED 1R", Ask.text(x, 2));
+        x.image(true);
+        before = all(x);
+        x.direct(0);
+        x.start(2, 0);
+        x.tick(20);
+        DUE.is("33 OPEN meanwhile", 0, x.receiver(1));
+        x.image(false);
+        DUE.is("33 LOCKED as it was", before, all(x));
+    }
+
+    private static void imageOfTheSender() {
+        CommandLink x = new CommandLink();
+        x.set(4, 3);
+        x.set(5, 1);
+        x.set(6, 40);
+        x.set(10, 20);
+        x.start(3, 9);
+        x.past(1);
+        x.past(2);
+        x.tick(1);
+        x.image(true);
+        String before = all(x);
+        for (int again = 0; again < 2; again++) {
+            x.tick(40);
+            x.direct(0);
+            x.start(0, 0);
+            x.image(false);
+            DUE.is("33 a DIRECTIVE as it was", before, all(x));
+        }
+        x.tick(2);
+        DUE.is("33 and its mark: it goes", "2 0 1 9 97", Ask.bytes(x, true, 2));
+        x.tick(40);
+        x.image(true);
+        before = all(x);
+        DUE.is("33 HELD", 5, x.sender(9));
+        x.start(0, 0);
+        x.send(1);
+        x.send(2);
+        x.tick(60);
+        x.direct(1);
+        x.image(false);
+        DUE.is("33 HELD as it was", before, all(x));
+        CommandLink y = Ask.withReport(3, 4, 0);
+        y.tick(1);
+        y.image(true);
+        before = all(y);
+        y.tick(10);
+        y.image(false);
+        DUE.is("33 the marks as they were", before, all(y));
+        y.tick(1);
+        DUE.is("33 the second goes then", 1, y.sender(5));
+        y.direct(0);
+        y.image(false);
+        DUE.is("33 SENT is in the ledger still", 1, y.ledger(2, 6));
+        y.direct(0);
+        DUE.is("33 and gone by its ALARM", 3, y.ledger(2, 6));
     }
 
     private static void imageLeavesTheTape() {
