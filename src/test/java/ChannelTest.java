@@ -180,6 +180,8 @@ public final class ChannelTest {
         }
         DUE.is("29 no ninth", -1, y.fate(false, 1));
         DUE.is("29 eight of the others too", 1, y.fate(true, 1));
+        y.tick(4);
+        DUE.is("29 one that has no FATE goes by all eight", 1, y.way(false, -1, 0));
     }
 
     private static void fateNeedsNoDraw() {
@@ -242,7 +244,15 @@ public final class ChannelTest {
         x.past(60);
         x.tick(1);
         DUE.is("20 one comes, one goes", 40, x.way(true, -1, 0));
+        x.image(true);
         x.tick(39);
         DUE.is("20 all came", 61, x.receiver(7));
+        x.image(false);
+        DUE.is("11 the last of forty", true, x.drop(true, 39));
+        DUE.is("11 one amid them", true, x.drop(true, 30));
+        DUE.is("11 those behind move up", 52, x.way(true, 30, 3));
+        DUE.is("11 and no others", 50, x.way(true, 29, 3));
+        x.tick(39);
+        DUE.is("11 all others came", 59, x.receiver(7));
     }
 }

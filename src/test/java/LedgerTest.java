@@ -9,6 +9,7 @@ public final class LedgerTest {
         otherKindsHaveNoLine();
         overtaken();
         takenInTogether();
+        takenInAtTheLastTick();
         goneByStart();
         takenInTwice();
         vanished();
@@ -129,6 +130,19 @@ public final class LedgerTest {
         DUE.is("26 the first at 4", 4, x.ledger(0, 5));
         DUE.is("26 the second waited behind it", 4, x.ledger(1, 5));
         DUE.is("27 none is behind the other", 0, x.delays(5));
+    }
+
+    private static void takenInAtTheLastTick() {
+        CommandLink x = new CommandLink();
+        x.start(0, 0);
+        for (int i = 0; i < 166; i++) {
+            x.tick(60);
+        }
+        x.tick(35);
+        x.send(1);
+        x.tick(4);
+        DUE.is("26 taken in at 9999", 9999, x.ledger(0, 5));
+        DUE.is("27 behind no other", 0, x.delays(5));
     }
 
     private static void goneByStart() {

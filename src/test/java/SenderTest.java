@@ -309,5 +309,12 @@ public final class SenderTest {
         x.tick(1);
         DUE.is("18 K is kept", 20, x.sender(4));
         DUE.is("18 LINE keeps it", 1, x.sender(3));
+        x.set(10, 1);
+        x.set(7, 1);
+        x.tick(1);
+        x.set(10, 20);
+        Ask.forgeReport(x, x.way(false, -1, 0) - 1, 4, 0);
+        x.tick(1);
+        DUE.is("18 all twenty MARKED, one went", 19, x.sender(5));
     }
 }
