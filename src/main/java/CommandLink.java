@@ -1426,6 +1426,9 @@ public final class CommandLink {
         final Common common;
         final int[] cells = new int[MOST * CELLS];
         int count = 0;
+        /** Of each line taken in, which in turn it was: one TICK may take in several. */
+        final int[] turns = new int[MOST];
+        int turnCount = 0;
         /** How many came onto LINE in all, those without a line here too. */
         int inAll = 0;
 
@@ -1481,6 +1484,8 @@ public final class CommandLink {
             int at = i * CELLS;
             if (cells[at + TAKEN] == 0) {
                 cells[at + TAKEN_FIRST] = common.tick;
+                turns[i] = turnCount;
+                turnCount++;
             }
             cells[at + TAKEN]++;
         }
@@ -1552,16 +1557,15 @@ public final class CommandLink {
         /** How many were taken in first behind one of a later line. */
         int howManyOvertaken() {
             int found = 0;
-            int earliestLater = TICK_MOST + 1;
-            for (int i = count - 1; i >= 0; i--) {
-                int first = cell(i, TAKEN_FIRST);
-                if (first == NONE) {
+            int earliestLater = turnCount;
+            for (int i = Math.min(count, MOST) - 1; i >= 0; i--) {
+                if (cell(i, TAKEN) == 0) {
                     continue;
                 }
-                if (first > earliestLater) {
+                if (turns[i] > earliestLater) {
                     found++;
                 }
-                earliestLater = Math.min(earliestLater, first);
+                earliestLater = Math.min(earliestLater, turns[i]);
             }
             return found;
         }
@@ -1569,6 +1573,8 @@ public final class CommandLink {
         void copyFrom(Ledger other) {
             count = other.count;
             inAll = other.inAll;
+            turnCount = other.turnCount;
+            System.arraycopy(other.turns, 0, turns, 0, MOST);
             System.arraycopy(other.cells, 0, cells, 0, MOST * CELLS);
         }
     }

@@ -9,6 +9,9 @@ public final class LedgerTest {
         otherKindsHaveNoLine();
         overtaken();
         takenInTogether();
+        takenInBehindAtOneTick();
+        takenInAgainAtOneTick();
+        overtakenByTheLastOfThree();
         takenInAtTheLastTick();
         goneByStart();
         takenInTwice();
@@ -130,6 +133,78 @@ public final class LedgerTest {
         DUE.is("26 the first at 4", 4, x.ledger(0, 5));
         DUE.is("26 the second waited behind it", 4, x.ledger(1, 5));
         DUE.is("27 none is behind the other", 0, x.delays(5));
+    }
+
+    /** Both come at one TICK, the later line first: by the order of coming, not by TICKS. */
+    private static void takenInBehindAtOneTick() {
+        CommandLink x = fourOnTheirWay();
+        x.drop(true, 0);
+        Ask.forge(x, true, 0, 1, 0);
+        Ask.forge(x, true, 1, 1, 1);
+        x.image(true);
+        x.tick(7);
+        DUE.is("26 the later line at 22", 22, x.ledger(1, 5));
+        DUE.is("26 the earlier line at 22, too", 22, x.ledger(0, 5));
+        DUE.is("27 the earlier line is behind the later one", 1, x.delays(5));
+        x.image(false);
+        DUE.is("27 the image has none of it", 0, x.delays(5));
+        x.tick(7);
+        DUE.is("27 again behind it", 1, x.delays(5));
+        x.image(true);
+        x.send(1);
+        x.send(2);
+        x.tick(20);
+        DUE.is("27 those in order are not", 1, x.delays(5));
+        x.image(false);
+        DUE.is("27 kept by the image", 1, x.delays(5));
+    }
+
+    /** Only the first time counts: the first line comes again, behind the second, as number 2. */
+    private static void takenInAgainAtOneTick() {
+        CommandLink x = fourOnTheirWay();
+        Ask.forge(x, true, 2, 1, 2);
+        x.tick(7);
+        DUE.is("26 the first line twice", "100 0 2 1 2 21 1", Ask.ledger(x, 0));
+        DUE.is("26 the second line between", "200 0 2 2 1 22 1", Ask.ledger(x, 1));
+        DUE.is("27 none was first taken in behind", 0, x.delays(5));
+    }
+
+    /** Taken in third, first, second: the first two lines are behind the third, each counts. */
+    private static void overtakenByTheLastOfThree() {
+        CommandLink x = new CommandLink();
+        x.set(6, 20);
+        x.start(0, 0);
+        x.send(1);
+        x.send(2);
+        x.send(3);
+        x.tick(3);
+        x.set(6, 1);
+        x.tick(14);
+        x.drop(true, 0);
+        x.drop(true, 0);
+        DUE.is("20 the third, then all three again", 4, x.way(true, -1, 0));
+        for (int i = 0; i < 3; i++) {
+            Ask.forge(x, true, i, 1, i);
+        }
+        x.tick(6);
+        DUE.is("19 the third is the first taken in", 3, x.receiver(100));
+        DUE.is("19 then the first", 1, x.receiver(101));
+        DUE.is("19 then the second", 2, x.receiver(102));
+        DUE.is("27 two are behind the third", 2, x.delays(5));
+    }
+
+    /** The first command, the second, the first, the second again; the last three come at 22. */
+    private static CommandLink fourOnTheirWay() {
+        CommandLink x = new CommandLink();
+        x.set(6, 20);
+        x.start(0, 0);
+        x.send(100);
+        x.send(200);
+        x.tick(2);
+        x.set(6, 1);
+        x.tick(13);
+        DUE.is("20 four on their way", 4, x.way(true, -1, 0));
+        return x;
     }
 
     private static void takenInAtTheLastTick() {

@@ -21,6 +21,7 @@ public final class PlainModel {
         int wentFirst = -1;
         int taken;
         int takenFirst = -1;
+        int takenTurn = -1;
         int stands;
 
         Entry copy() {
@@ -31,6 +32,7 @@ public final class PlainModel {
             e.wentFirst = wentFirst;
             e.taken = taken;
             e.takenFirst = takenFirst;
+            e.takenTurn = takenTurn;
             e.stands = stands;
             return e;
         }
@@ -406,6 +408,7 @@ public final class PlainModel {
                         Entry e = ledger.get(entry);
                         e.taken++;
                         e.takenFirst = e.takenFirst < 0 ? tick : e.takenFirst;
+                        e.takenTurn = e.takenTurn < 0 ? order.size() : e.takenTurn;
                     }
                     return true;
                 case 1:
@@ -954,7 +957,7 @@ public final class PlainModel {
             }
             boolean overtaken = false;
             for (Entry later : x.ledger.subList(i + 1, x.ledger.size())) {
-                overtaken |= e.taken > 0 && later.taken > 0 && later.takenFirst < e.takenFirst;
+                overtaken |= e.taken > 0 && later.taken > 0 && later.takenTurn < e.takenTurn;
             }
             d[5] += overtaken ? 1 : 0;
             if (e.went > 1) {

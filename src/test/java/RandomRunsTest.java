@@ -145,6 +145,10 @@ public final class RandomRunsTest {
 
     /** A byte of one on its way, often with the CHECK made good again. */
     private void tamper() throws Exception {
+        if (random.nextInt(4) == 0) {
+            numberAnew();
+            return;
+        }
         boolean up = random.nextBoolean();
         int count = model.way(up, -1, 0);
         int i = random.nextInt(count + 1);
@@ -158,6 +162,18 @@ public final class RandomRunsTest {
                 sum += model.way(up, i, b);
             }
             both("spoil", up, i, last, sum & 255);
+        }
+    }
+
+    /** All FRAMES on their way as the receiver wants them, often without the first: lines overtake. */
+    private void numberAnew() throws Exception {
+        if (random.nextInt(2) == 0) {
+            both("drop", true, 0);
+        }
+        for (int i = 0; i < model.way(true, -1, 0); i++) {
+            int n = (model.receiver(0) + i) & 255;
+            both("spoil", true, i, 1, n);
+            both("spoil", true, i, 4, model.way(true, i, 0) + n + model.way(true, i, 2) + model.way(true, i, 3) + 85 & 255);
         }
     }
 
