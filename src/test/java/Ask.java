@@ -6,7 +6,8 @@ final class Ask {
     /** TEXT what as a String. */
     static String text(CommandLink x, int what) {
         StringBuilder s = new StringBuilder();
-        for (int i = 0; i < x.told(what, CommandLink.NONE); i++) {
+        int length = x.told(what, CommandLink.NONE);
+        for (int i = 0; i < length; i++) {
             s.append((char) x.told(what, i));
         }
         return s.toString();
@@ -54,7 +55,13 @@ final class Ask {
 
     /** MACHINE 1 with `commands` of them SENT, and one REPORT alone on its way, which is next. */
     static CommandLink withReport(int commands, int flags, int n) {
+        return withReportFrom(0, commands, flags, n);
+    }
+
+    /** The same, with this NUMBER at first. */
+    static CommandLink withReportFrom(int first, int commands, int flags, int n) {
         CommandLink x = new CommandLink();
+        x.renumber(first);
         x.set(0, 200);
         x.set(1, 8);
         x.set(2, 20);
@@ -85,7 +92,8 @@ final class Ask {
     /** Lines of the diary as TICK:from>to, with blanks. */
     static String diary(CommandLink x) {
         StringBuilder s = new StringBuilder();
-        for (int i = 0; i < x.diary(CommandLink.NONE, 0); i++) {
+        int lines = x.diary(CommandLink.NONE, 0);
+        for (int i = 0; i < lines; i++) {
             s.append(i == 0 ? "" : " ").append(x.diary(i, 0)).append(':').append(x.diary(i, 1));
             s.append('>').append(x.diary(i, 2));
         }
@@ -99,5 +107,74 @@ final class Ask {
             s.append(what == 0 ? "" : " ").append(x.ledger(i, what));
         }
         return s.toString();
+    }
+
+    /** A link on which a FRAME comes a TICK behind that at which it went, and REPORTS seldom go. */
+    static CommandLink quick() {
+        CommandLink x = new CommandLink();
+        x.set(6, 1);
+        x.set(10, 20);
+        x.set(4, 99);
+        x.set(2, 20);
+        x.start(0, 0);
+        return x;
+    }
+
+    /** A FRAME of these bytes with a CHECK that is good comes; UP must be 1. */
+    static void comes(CommandLink x, int kind, int n, int high, int low) {
+        comesWith(x, kind, n, high, low, kind + n + high + low + 85 & 255);
+    }
+
+    static void comesWith(CommandLink x, int kind, int n, int high, int low, int check) {
+        x.past(0);
+        x.tick(1);
+        int last = x.way(true, -1, 0) - 1;
+        int[] bytes = {kind, n, high, low, check};
+        for (int k = 0; k < bytes.length; k++) {
+            x.spoil(true, last, k, bytes[k]);
+        }
+        x.tick(1);
+    }
+
+    /** STATE from which the next DRAW makes this one. */
+    static int stateAhead(int next) {
+        int inverse = 1;
+        for (int bits = 0; bits < 5; bits++) {
+            inverse *= 2 - 1664525 * inverse;
+        }
+        return (next - 1013904223) * inverse;
+    }
+
+    /** Answers to some three hundred questions: all that there is to see of a link that has little. */
+    static String everything(CommandLink x) {
+        StringBuilder s = new StringBuilder();
+        for (int what = 0; what < 20; what++) {
+            s.append(x.look(what)).append(' ');
+        }
+        for (int what = 0; what < 11; what++) {
+            s.append(x.sender(what)).append(' ');
+        }
+        for (int what = 0; what < 8; what++) {
+            s.append(x.receiver(what)).append(' ');
+        }
+        for (int what = 0; what < 4; what++) {
+            s.append(text(x, what)).append(' ');
+        }
+        for (int what = 0; what < 9; what++) {
+            s.append(x.verdicts(what)).append(' ').append(x.delays(what)).append(' ').append(x.truth(what)).append(' ');
+        }
+        int lines = Math.min(6, x.ledger(-1, 0));
+        for (int i = 0; i < lines; i++) {
+            s.append(ledger(x, i)).append(' ');
+        }
+        for (int i = 0; i < 4; i++) {
+            s.append(bytes(x, true, i)).append(' ').append(x.way(true, i, -1)).append(' ').append(bytes(x, false, i));
+            s.append(' ').append(x.way(false, i, -1)).append(' ').append(x.sender(100 + i)).append(' ');
+            s.append(x.sender(200 + i)).append(' ').append(x.receiver(100 + i)).append(' ').append(x.receiver(200 + i));
+            s.append(' ').append(x.alarm(i)).append(' ');
+        }
+        s.append(x.way(true, -1, 0)).append(' ').append(x.way(false, -1, 0)).append(' ').append(x.ledger(-1, 0));
+        s.append(' ').append(x.zone(0)).append(' ').append(x.fault(0)).append(' ').append(x.fault(1)).append(' ');
+        return s.append(diary(x)).append(' ').append(x.alarm(-1)).toString();
     }
 }
