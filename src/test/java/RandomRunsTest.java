@@ -6,12 +6,14 @@ import java.util.Random;
 
 /**
  * Random runs of calls on a CommandLink and on a PlainModel: every answer must be the same, no
- * call may throw. The seeds are fixed, so that a run that fails fails again.
+ * call may throw. The seeds are fixed, so that a run that fails fails again. Each object is used
+ * for 512 calls, as many as are promised; a run stops changing it at some call before that.
  */
 public final class RandomRunsTest {
-    private static final int RUNS = 600;
-    private static final int CALLS = 300;
-    private static final int LONG_RUN = 1200;
+    private static final int RUNS = 15000;
+    private static final int CALLS = 512;
+    private static final int LAST_QUESTIONS = 110;
+    private static final int TEMPERS = 7;
     private static final String[] WORDS = {"send", "past", "start", "check", "unlock", "set", "stop", "on",
         "renumber", "take", "tick", "lose", "drop"};
 
@@ -20,12 +22,13 @@ public final class RandomRunsTest {
     private final PlainModel model = new PlainModel();
     private final List<String> calls = new ArrayList<>();
     private final int temper;
+    private int made = 0;
     private static int wrong = 0;
     private static long asked = 0;
 
     private RandomRunsTest(int seed) {
         random = new Random(seed);
-        temper = seed % 6;
+        temper = seed % TEMPERS;
     }
 
     public static void main(String[] args) throws Exception {
@@ -42,22 +45,24 @@ public final class RandomRunsTest {
     private void run(int seed) throws Exception {
         try {
             prepare();
-            int many = seed % 20 == 5 ? LONG_RUN : CALLS;
-            for (int i = 0; i < many; i++) {
+            int last = 20 + random.nextInt(CALLS - LAST_QUESTIONS - 20);
+            for (int i = 0; i < CALLS && made < last; i++) {
                 step();
-                observeLittle();
-                if (i % 25 == 24) {
-                    observeAll();
+                if (random.nextInt(3) == 0) {
+                    question();
                 }
             }
-            observeAll();
+            chiefQuestions();
+            while (made < CALLS) {
+                question();
+            }
         } catch (IllegalStateException e) {
             wrong++;
             System.out.println("seed " + seed + ": " + e.getMessage() + "\n  behind " + calls);
         }
     }
 
-    /** Each temper leads to other states: lossy, suspending, narrow, slow, wild, gentle. */
+    /** Each temper leads to other states: lossy, suspending, narrow, slow, wild, busy, often stopped. */
     private void prepare() throws Exception {
         both("state", random.nextInt());
         if (temper == 0) {
@@ -81,10 +86,15 @@ public final class RandomRunsTest {
         }
         if (temper == 5) {
             both("set", 1, 8);
+            both("set", 2, 8 + random.nextInt(13));
             both("set", 4, 60);
             both("set", 10, 1);
         }
-        both("start", random.nextInt(4), random.nextInt(256));
+        for (int i = temper == 6 ? random.nextInt(70) : 0; i > 0; i--) {
+            both("start", random.nextInt(4), random.nextInt(256));
+            both("direct", 0);
+        }
+        both("start", random.nextInt(4), random.nextInt(2) == 0 ? 246 + random.nextInt(10) : random.nextInt(256));
     }
 
     private void step() throws Exception {
@@ -94,8 +104,9 @@ public final class RandomRunsTest {
             both("start", random.nextInt(4), model.receiver(0));
         }
         int r = random.nextInt(100);
-        if (temper == 5 && r >= 63 && r < 82) {
-            r = random.nextInt(60);
+        if (temper == 5 && (r >= 63 && r < 82 || random.nextInt(2) == 0)) {
+            busyStep();
+            return;
         }
         if (r < 24) {
             both("send", random.nextInt(30) == 0 ? random.nextInt(20000) - 5000 : random.nextInt(10000));
@@ -127,6 +138,17 @@ public final class RandomRunsTest {
             both("run", random.nextInt(26));
         } else {
             oddQuestion();
+        }
+    }
+
+    /** Many commands in few calls: the ledger has its hundred lines before the calls are used up. */
+    private void busyStep() throws Exception {
+        for (int i = 1 + random.nextInt(8); i > 0; i--) {
+            both("send", random.nextInt(10000));
+        }
+        both("tick", 1 + random.nextInt(12));
+        for (int i = model.receiver(5); i > 0; i--) {
+            both("take");
         }
     }
 
@@ -261,7 +283,8 @@ public final class RandomRunsTest {
         both("judge", a, b, a, b, a);
     }
 
-    private void observeLittle() throws Exception {
+    /** What most of the rest hangs on. */
+    private void chiefQuestions() throws Exception {
         for (int what = 0; what <= 10; what++) {
             both("sender", what);
         }
@@ -271,53 +294,52 @@ public final class RandomRunsTest {
         for (int what = 12; what <= 19; what++) {
             both("look", what);
         }
+        for (int what = 0; what <= 8; what++) {
+            both("verdicts", what);
+            both("delays", what);
+            both("truth", what);
+        }
+        for (int what = 0; what < 4; what++) {
+            both("told", what, -1);
+        }
         both("way", true, -1, 0);
         both("way", false, -1, 0);
         both("alarm", -1);
-    }
-
-    private void observeAll() throws Exception {
-        for (int i = 0; i < 20; i++) {
-            both("sender", 100 + i);
-            both("sender", 200 + i);
-        }
-        for (int i = 0; i < 101; i++) {
-            both("receiver", 100 + i);
-            both("receiver", 200 + i);
-            both("diary", i, i % 3);
-            both("diary", i, (i + 1) % 3);
-            both("alarm", i);
-            for (int what = 0; what < 7; what++) {
-                both("ledger", i, what);
-            }
-        }
-        for (int i = 0; i < 42; i++) {
-            for (int k = -1; k < 6; k++) {
-                both("way", true, i, k);
-                both("way", false, i, k);
-            }
-        }
-        for (int what = 0; what < 4; what++) {
-            for (int i = -1; i < 30; i++) {
-                both("told", what, i);
-            }
-        }
-        for (int what = -1; what < 10; what++) {
-            both("delays", what);
-            both("truth", what);
-            both("verdicts", what);
-        }
-        for (int what = 0; what < 12; what++) {
-            both("look", what);
-        }
-        for (int n = 0; n < 256; n++) {
-            both("zone", n);
-        }
         both("ledger", -1, 0);
         both("diary", -1, 0);
     }
 
+    /** A question about something that most likely is there. */
+    private void question() throws Exception {
+        boolean up = random.nextBoolean();
+        switch (random.nextInt(12)) {
+            case 0: both("sender", 100 + 100 * random.nextInt(2) + among(model.sender(4))); break;
+            case 1: both("receiver", 100 + among(Math.min(100, model.receiver(6)))); break;
+            case 2: both("receiver", 200 + among(Math.min(100, model.receiver(7)))); break;
+            case 3: both("diary", among(model.diary(-1, 0)), random.nextInt(3)); break;
+            case 4: both("alarm", among(model.alarm(-1))); break;
+            case 5: both("way", up, among(model.way(up, -1, 0)), random.nextInt(7) - 1); break;
+            case 6: told(random.nextInt(4)); break;
+            case 7: both("look", random.nextInt(20)); break;
+            case 8: both("zone", random.nextInt(256)); break;
+            default: both("ledger", among(model.ledger(-1, 0)), random.nextInt(7)); break;
+        }
+    }
+
+    private void told(int what) throws Exception {
+        both("told", what, among(model.told(what, -1)));
+    }
+
+    /** One of so many, or the first that is none of them. */
+    private int among(int many) {
+        return random.nextInt(many + 1);
+    }
+
     private void both(String name, Object... args) throws Exception {
+        if (made >= CALLS) {
+            return;
+        }
+        made++;
         Method m = method(CommandLink.class, name);
         long got;
         try {

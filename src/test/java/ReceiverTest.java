@@ -14,7 +14,6 @@ public final class ReceiverTest {
         notGood();
         goodEdges();
         countGoesRound();
-        keepsAHundred();
         reports();
         zones();
         asking();
@@ -187,22 +186,6 @@ public final class ReceiverTest {
         }
         DUE.is("19 PAST in all", 5, x.receiver(7));
         DUE.is("19 the third", 3, x.receiver(202));
-    }
-
-    private static void keepsAHundred() {
-        CommandLink x = quick();
-        x.set(1, 8);
-        for (int i = 0; i < 103; i++) {
-            comes(x, 0, i, i / 256, i);
-            x.take();
-            comes(x, 1, 0, 1, i);
-        }
-        DUE.is("19 ORDER ever", 103, x.receiver(6));
-        DUE.is("19 PAST ever", 103, x.receiver(7));
-        DUE.is("19 the hundredth of ORDER", 99, x.receiver(199));
-        DUE.is("19 the first of PAST", 256, x.receiver(200));
-        DUE.is("19 the hundredth of PAST", 355, x.receiver(299));
-        DUE.is("19 no more", -2, x.receiver(300));
     }
 
     /** The REPORT that goes at the next TICK. */

@@ -18,7 +18,10 @@ public final class ThoughtTest {
         waysTakeAll();
         image();
         imageOfTheReceiver();
-        imageOfTheSender();
+        imageOfALockedReceiver();
+        imageOfADirective();
+        imageOfTheHeld();
+        imageOfTheMarks();
         imageLeavesTheTape();
         DUE.end();
     }
@@ -264,14 +267,7 @@ public final class ThoughtTest {
     }
 
     private static void imageOfTheReceiver() {
-        CommandLink x = new CommandLink();
-        x.set(1, 1);
-        x.set(6, 1);
-        x.start(0, 0);
-        x.past(4000);
-        x.send(5000);
-        x.send(6000);
-        x.tick(4);
+        CommandLink x = waiting();
         x.image(true);
         DUE.is("33 it WAITS", "WAIT 1R", Ask.text(x, 2));
         String before = all(x);
@@ -282,11 +278,27 @@ public final class ThoughtTest {
         DUE.is("33 LOCKED meanwhile", "LOCKED 2", Ask.text(x, 2));
         x.image(false);
         DUE.is("33 the receiver is as it was", before, all(x));
+    }
+
+    private static CommandLink waiting() {
+        CommandLink x = new CommandLink();
+        x.set(1, 1);
+        x.set(6, 1);
+        x.start(0, 0);
+        x.past(4000);
+        x.send(5000);
+        x.send(6000);
+        x.tick(4);
+        return x;
+    }
+
+    private static void imageOfALockedReceiver() {
+        CommandLink x = waiting();
         lock(x);
         x.tick(9);
         DUE.is("33 LOCKED", "LOCKED 1R", Ask.text(x, 2));
         x.image(true);
-        before = all(x);
+        String before = all(x);
         x.direct(0);
         x.start(2, 0);
         x.tick(20);
@@ -295,7 +307,7 @@ public final class ThoughtTest {
         DUE.is("33 LOCKED as it was", before, all(x));
     }
 
-    private static void imageOfTheSender() {
+    private static CommandLink directing() {
         CommandLink x = new CommandLink();
         x.set(4, 3);
         x.set(5, 1);
@@ -305,20 +317,27 @@ public final class ThoughtTest {
         x.past(1);
         x.past(2);
         x.tick(1);
+        return x;
+    }
+
+    private static void imageOfADirective() {
+        CommandLink x = directing();
         x.image(true);
         String before = all(x);
-        for (int again = 0; again < 2; again++) {
-            x.tick(40);
-            x.direct(0);
-            x.start(0, 0);
-            x.image(false);
-            DUE.is("33 a DIRECTIVE as it was", before, all(x));
-        }
+        x.tick(40);
+        x.direct(0);
+        x.start(0, 0);
+        x.image(false);
+        DUE.is("33 a DIRECTIVE as it was", before, all(x));
         x.tick(2);
         DUE.is("33 and its mark: it goes", "2 0 1 9 97", Ask.bytes(x, true, 2));
-        x.tick(40);
+    }
+
+    private static void imageOfTheHeld() {
+        CommandLink x = directing();
+        x.tick(42);
         x.image(true);
-        before = all(x);
+        String before = all(x);
         DUE.is("33 HELD", 5, x.sender(9));
         x.start(0, 0);
         x.send(1);
@@ -327,10 +346,13 @@ public final class ThoughtTest {
         x.direct(1);
         x.image(false);
         DUE.is("33 HELD as it was", before, all(x));
+    }
+
+    private static void imageOfTheMarks() {
         CommandLink y = Ask.withReport(3, 4, 0);
         y.tick(1);
         y.image(true);
-        before = all(y);
+        String before = all(y);
         y.tick(10);
         y.image(false);
         DUE.is("33 the marks as they were", before, all(y));
@@ -355,6 +377,7 @@ public final class ThoughtTest {
         DUE.is("33 the TAPE stays", 2, x.plan());
     }
 
+    /** Some hundred questions: a link may be asked them more than once. */
     private static String all(CommandLink x) {
         StringBuilder s = new StringBuilder();
         for (int what = 0; what < 20; what++) {
@@ -366,13 +389,11 @@ public final class ThoughtTest {
         for (int what = 0; what < 8; what++) {
             s.append(x.receiver(what)).append(' ');
         }
-        for (int what = 0; what < 4; what++) {
-            s.append(Ask.text(x, what)).append(' ');
-        }
         for (int what = 0; what < 9; what++) {
-            s.append(x.verdicts(what)).append(' ').append(x.delays(what)).append(' ').append(x.truth(what));
+            s.append(x.verdicts(what)).append(' ');
         }
-        for (int i = 0; i < x.ledger(-1, 0); i++) {
+        int lines = x.ledger(-1, 0);
+        for (int i = 0; i < lines; i++) {
             s.append(Ask.ledger(x, i)).append(' ');
         }
         for (int i = 0; i < 3; i++) {
@@ -380,7 +401,6 @@ public final class ThoughtTest {
             s.append(x.way(false, i, -1)).append(x.sender(100 + i)).append(x.sender(200 + i));
             s.append(x.receiver(100 + i)).append(x.receiver(200 + i)).append(x.alarm(i));
         }
-        s.append(Ask.diary(x)).append(x.alarm(-1));
-        return s.toString();
+        return s.append(Ask.diary(x)).append(x.alarm(-1)).append(Ask.text(x, 0)).toString();
     }
 }
