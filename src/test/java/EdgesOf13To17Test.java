@@ -541,6 +541,10 @@ public final class EdgesOf13To17Test {
         DUE.is("17 send 0", 0, x.ledger(0, 0));
         DUE.is("17 send 9999", 9999, x.ledger(1, 0));
         DUE.is("17 both in LINE", 2, x.truth(4));
+        DUE.is("17 tick and no take: both lie there", 1, Ask.run(x, "tick 60;"));
+        DUE.is("17 nothing is TAKEN by a tick", 2, x.receiver(5));
+        DUE.is("17 the first is TAKEN", 1, Ask.run(x, "take;"));
+        DUE.is("17 9999 is left", 9999, x.take());
     }
 
     private static void call(CommandLink x, int line) {

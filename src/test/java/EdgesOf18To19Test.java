@@ -147,6 +147,7 @@ public final class EdgesOf18To19Test {
         x.start(2, 0);
         x.tick(1);
         DUE.is("18 it goes", 1, x.look(13));
+        DUE.is("18 the FRAME of an unlock", "2 0 0 0 87", Ask.bytes(x, true, 0));
         x.tick(3);
         DUE.is("18 it is not MARKED then", 1, x.look(13));
         x.tick(1);
@@ -429,59 +430,67 @@ public final class EdgesOf18To19Test {
         }
     }
 
-    /** "100 of each kept"; "6 ORDER, 7 PAST (how many ever), 100 + i .. (from the first on, 100 at most)". */
-    private static void hundredOfOrder() {
+    /** So many were taken in in order, 1000 the first, and all are TAKEN. */
+    private static CommandLink withOrder(int many) {
         CommandLink x = Ask.quick();
         x.set(1, 8);
         x.set(10, 1);
         x.set(7, 1);
-        int sent = 0;
-        for (int round = 0; round < 13; round++) {
-            for (int v = 0; v < 8; v++) {
+        for (int sent = 0; sent < many; ) {
+            for (int v = 0; v < 8 && sent < many; v++) {
                 x.send(1000 + sent);
                 sent++;
             }
             x.tick(11);
-            if (sent == 96) {
-                DUE.is("19 the 96th", 1095, x.receiver(195));
-                DUE.is("19 no 97th yet", -2, x.receiver(196));
-            }
             for (int v = 0; v < 8; v++) {
                 x.take();
             }
         }
-        DUE.is("19 ORDER, how many ever", 104, x.receiver(6));
-        DUE.is("19 the first is kept", 1000, x.receiver(100));
-        DUE.is("19 the 99th is kept", 1098, x.receiver(198));
-        DUE.is("19 the 100th is kept", 1099, x.receiver(199));
-        DUE.is("19 the 101st is none of PAST", -2, x.receiver(200));
-        x.send(9);
-        x.tick(2);
-        DUE.is("19 one beyond the 100th is taken in as ever", 9, x.take());
-        DUE.is("19 and counted", 105, x.receiver(6));
-        DUE.is("19 NEXT, too", 105, x.receiver(0));
+        return x;
+    }
+
+    /** "100 of each kept"; "6 ORDER, 7 PAST (how many ever), 100 + i .. (from the first on, 100 at most)". */
+    private static void hundredOfOrder() {
+        for (int many : new int[] {99, 100, 101, 104}) {
+            CommandLink x = withOrder(many);
+            DUE.is("19 ORDER, how many ever", many, x.receiver(6));
+            DUE.is("19 the first of " + many, 1000, x.receiver(100));
+            DUE.is("19 the 99th of " + many, 1098, x.receiver(198));
+            DUE.is("19 the 100th of " + many, many == 99 ? -2 : 1099, x.receiver(199));
+            DUE.is("19 the 101st of " + many + " is none of PAST", -2, x.receiver(200));
+            x.send(9);
+            x.tick(2);
+            DUE.is("19 the next is taken in as ever", 9, x.take());
+            DUE.is("19 and counted", many + 1, x.receiver(6));
+            DUE.is("19 NEXT, too", many + 1, x.receiver(0));
+            DUE.is("19 the 100th then", many == 99 ? 9 : 1099, x.receiver(199));
+        }
+    }
+
+    private static CommandLink withPast(int many) {
+        CommandLink x = new CommandLink();
+        x.set(6, 1);
+        for (int v = 0; v < many; ) {
+            for (int i = 0; i < 4 && v < many; i++) {
+                x.past(2000 + v);
+                v++;
+            }
+            x.tick(5);
+        }
+        return x;
     }
 
     private static void hundredOfPast() {
-        CommandLink x = new CommandLink();
-        x.set(6, 1);
-        for (int v = 0; v < 104; v += 4) {
-            for (int i = 0; i < 4; i++) {
-                x.past(2000 + v + i);
-            }
-            x.tick(5);
-            if (v == 96) {
-                DUE.is("19 PAST, how many", 100, x.receiver(7));
-                DUE.is("19 the 100th of PAST", 2099, x.receiver(299));
-                DUE.is("19 no 101st", -2, x.receiver(300));
-            }
+        for (int many : new int[] {99, 100, 101, 104}) {
+            CommandLink x = withPast(many);
+            DUE.is("19 PAST, how many ever", many, x.receiver(7));
+            DUE.is("19 the first of PAST, of " + many, 2000, x.receiver(200));
+            DUE.is("19 the 99th of PAST, of " + many, 2098, x.receiver(298));
+            DUE.is("19 the 100th of PAST, of " + many, many == 99 ? -2 : 2099, x.receiver(299));
+            DUE.is("19 the 101st of PAST, of " + many, -2, x.receiver(300));
+            DUE.is("19 none in ORDER, of " + many, -2, x.receiver(199));
+            DUE.is("19 COUNT of " + many, many % 4, x.receiver(4));
         }
-        DUE.is("19 PAST, how many ever", 104, x.receiver(7));
-        DUE.is("19 the first of PAST is kept", 2000, x.receiver(200));
-        DUE.is("19 the 100th of PAST is kept", 2099, x.receiver(299));
-        DUE.is("19 no more are", -2, x.receiver(300));
-        DUE.is("19 nor in ORDER", -2, x.receiver(199));
-        DUE.is("19 COUNT went round 26 times", 0, x.receiver(4));
     }
 
     /** "COUNT (0; modulo 4)". */

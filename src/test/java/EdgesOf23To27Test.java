@@ -632,5 +632,36 @@ public final class EdgesOf23To27Test {
         y.tick(40);
         DUE.is("27 the second alone: none", 0, y.delays(5));
         DUE.is("27 it was taken in", 1, y.delays(0));
+        behindAtOneTick();
+    }
+
+    /** Two lines on their way twice; all but the first come at one TICK, in the order of going. */
+    private static CommandLink fourOnTheirWay() {
+        CommandLink x = new CommandLink();
+        x.set(6, 20);
+        x.start(0, 0);
+        x.send(100);
+        x.send(200);
+        x.tick(2);
+        x.set(6, 1);
+        x.tick(13);
+        DUE.is("27 the first, the second, the first, the second", 4, x.way(true, -1, 0));
+        return x;
+    }
+
+    private static void behindAtOneTick() {
+        CommandLink behind = fourOnTheirWay();
+        behind.drop(true, 0);
+        Ask.forge(behind, true, 0, 1, 0);
+        Ask.forge(behind, true, 1, 1, 1);
+        behind.tick(7);
+        DUE.is("27 both at one TICK", behind.ledger(0, 5), behind.ledger(1, 5));
+        DUE.is("27 the first behind the second: one", 1, behind.delays(5));
+        CommandLink order = fourOnTheirWay();
+        order.drop(true, 0);
+        order.drop(true, 0);
+        order.tick(7);
+        DUE.is("27 both at one TICK, in order", order.ledger(0, 5), order.ledger(1, 5));
+        DUE.is("27 the second behind the first: none", 0, order.delays(5));
     }
 }

@@ -25,6 +25,8 @@ public final class EdgesOf31To34Test {
         waysOfTheNumber();
         waysBehindStop();
         waysBeyond9999();
+        waysWithoutLossAndSpoilt();
+        waysWithAllTaken();
         noImage();
         imageMoreThanOnce();
         imageTakenAnew();
@@ -323,6 +325,42 @@ public final class EdgesOf31To34Test {
         CommandLink x = at9999();
         DUE.is("32 at 9999", 15, x.ways());
         DUE.is("32 TICK stays", 9999, x.look(0));
+    }
+
+    /** "TICKS like these": without LOSS, SPOILT, but FATES as ever. */
+    private static void waysWithoutLossAndSpoilt() {
+        for (int what = 8; what <= 9; what++) {
+            CommandLink x = Ask.quick();
+            Ask.comes(x, 0, 128, 0, 5);
+            x.set(3, 1);
+            x.set(what, 90);
+            x.state(Ask.stateAhead(0));
+            DUE.is("32 LOCKED: the unlock, whatever the DRAWS are", 4, x.ways());
+            DUE.is("32 LOSS or SPOILT is told still", 90, x.look(what + 1));
+            x.fate(true, 1);
+            DUE.is("32 its FRAME is lost by a FATE, LIMIT 1: none", 0, x.ways());
+        }
+    }
+
+    /** "TICKS like these": all are TAKEN behind each. Two are SENT, ROOM is 1. */
+    private static void waysWithAllTaken() {
+        CommandLink x = new CommandLink();
+        x.set(1, 1);
+        x.set(3, 1);
+        x.set(4, 2);
+        x.set(5, 1);
+        x.set(10, 20);
+        x.start(0, 0);
+        x.send(1);
+        x.send(2);
+        x.fate(true, 1);
+        x.fate(true, 2);
+        x.tick(4);
+        DUE.is("32 HELD, both are lost", "OFF 2/3 #2 HELD ACTIVE", Ask.text(x, 1));
+        x.set(4, 99);
+        DUE.is("32 GO ON, with room for both, or the set", 24, x.ways());
+        x.set(1, 0);
+        DUE.is("32 ROOM 0: the set alone", 8, x.ways());
     }
 
     /** "false if there is none". */
